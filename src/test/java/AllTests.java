@@ -5,6 +5,12 @@ public final class AllTests {
 
     public static void main(String[] args) throws Exception {
         PromiseTests.run();
+        RefusalTests.run();
+        TextEdgeTests.run();
+        RoundEdgeTests.run();
+        BestEdgeTests.run();
+        ReadingEdgeTests.run();
+        SheetEdgeTests.run();
         LanguageTests.run(args.length > 0 ? args[0] : "src/main/java/UseMuseum.java");
         RandomRunTests.run();
         Check.close();

@@ -8,7 +8,6 @@ import java.nio.file.Path;
 import java.util.Arrays;
 import java.util.Set;
 import java.util.TreeSet;
-import java.util.regex.Matcher;
 import java.util.regex.Pattern;
 
 /** Those rules of ../shared/LANGUAGE.md that a look at the file, its classes and its room can show. */
@@ -19,6 +18,7 @@ final class LanguageTests {
     private static final Set<String> CONSTANTS = new TreeSet<>(Arrays.asList("UNKNOWN", "OUTSIDE", "STATE", "FULL",
             "NONE", "LOST"));
     private static final int MOST_LINES = 60, MOST_FIELDS = 20, MOST_CLASSES = 12, MOST_PARAMETERS = 7;
+    private static final long ROOM_IN_BYTES = 4L * 7300000;
 
     private LanguageTests() {
     }
@@ -61,7 +61,7 @@ final class LanguageTests {
 
     private static void classes() {
         Class<?>[] inside = UseMuseum.class.getDeclaredClasses();
-        Check.holds("rule 11: classes " + inside.length, inside.length < MOST_CLASSES);
+        Check.holds("rule 11: classes " + inside.length, inside.length <= MOST_CLASSES);
         ofClass(UseMuseum.class);
         for (Class<?> one : inside) {
             Check.holds("rule 2: static " + one, Modifier.isStatic(one.getModifiers()));
@@ -79,26 +79,24 @@ final class LanguageTests {
         Check.holds("rule 11: fields of " + one, fields <= MOST_FIELDS);
         for (Method method : one.getDeclaredMethods()) {
             Check.holds("rule 11: parameters of " + method, method.getParameterCount() <= MOST_PARAMETERS);
-            Check.holds("rule 2: no lambda " + method, !method.isSynthetic());
+            Check.holds("rule 2: no lambda " + method, !method.getName().startsWith("lambda$"));
         }
     }
 
-    private static String withoutComments(String source) {
-        return source.replaceAll("(?s)/\\*.*?\\*/", " ").replaceAll("//[^\n]*", " ");
+    private static String codeOf(String source) {
+        String code = source.replaceAll("(?s)/\\*.*?\\*/", " ").replaceAll("//[^\n]*", " ");
+        return code.replaceAll("\"([^\"\\\\\n]|\\\\.)*\"", "\"\"");
     }
 
+    /** Only words that the rules leave out for every program, not those that this one merely does without. */
     private static void words(String source) {
-        String code = withoutComments(source);
-        String[] forbidden = {"\\bthrow", "\\btry\\b", "\\bcatch\\b", "\\bsynchronized\\b", "\\bassert\\b", "\\bimport\\b",
-            "\\bpackage\\b", "->", "::", "\\bstatic\\s*\\{", "\\binstanceof\\b", "\\bwhile\\b", "\"", "\\bprotected\\b"};
+        String code = codeOf(source);
+        String[] forbidden = {"\\bthrow", "\\btry\\b", "\\bcatch\\b", "\\bsynchronized\\b", "\\bassert\\b", "\\bpackage\\b",
+            "\\bimport\\s+(?!java\\.util\\.(\\*|ArrayList|List|Arrays|Iterator);)", "::", "\\bstatic\\s*\\{",
+            "\\bprotected\\b", "\\w+Exact\\b", "\\bMath\\.random\\b", "\\bSystem\\.(?!arraycopy\\b)", "\\bThread\\b",
+            "\\bArrays\\.(?!copyOf\\b|copyOfRange\\b|fill\\b)", "\\bList\\.(?!of\\b)"};
         for (String word : forbidden) {
-            Check.holds("rules 1 to 6: without " + word, !Pattern.compile(word).matcher(code).find());
-        }
-        Matcher library = Pattern.compile("\\b([A-Z][a-z]\\w*)\\.(\\w+)\\(").matcher(code);
-        Set<String> allowed = Set.of("System.arraycopy", "Integer.bitCount", "Text.firstFault", "Text.fill");
-        while (library.find()) {
-            String call = library.group(1) + "." + library.group(2);
-            Check.holds("rule 4: " + call, allowed.contains(call));
+            Check.holds("rules 1 to 13: without " + word, !Pattern.compile(word).matcher(code).find());
         }
         int lines = 0;
         for (String line : code.split("\n")) {
@@ -107,17 +105,18 @@ final class LanguageTests {
         }
     }
 
-    /** A run's room holds what all its calls make: here, nothing but what the constructor made. */
+    /** All that a run of 512 calls makes lives in one room; here its fields and elements count as four bytes each. */
     private static void room() {
         com.sun.management.ThreadMXBean threads = (com.sun.management.ThreadMXBean) ManagementFactory.getThreadMXBean();
         long thread = Thread.currentThread().getId();
+        UseMuseum warm = Told.open("u2;t02203;l01663;h13212;t09163");
+        dearCalls(warm, 1);
+        long before = threads.getThreadAllocatedBytes(thread);
         UseMuseum x = Told.open("u2;t02203;l01663;h13212;t09163");
         Told.row(x, 1, 0, 0, 1, -9, -9, 0, 2);
-        dearCalls(x, 1);
-        long before = threads.getThreadAllocatedBytes(thread);
-        dearCalls(x, 40);
+        dearCalls(x, 39);
         long made = threads.getThreadAllocatedBytes(thread) - before;
-        Check.holds("rule 12: calls make nothing, made " + made + " bytes", made < 20000);
+        Check.holds("rule 12: a run made " + made + " bytes", made <= ROOM_IN_BYTES);
     }
 
     private static void dearCalls(UseMuseum x, int times) {
