@@ -12,6 +12,7 @@ public final class AllTests {
         ReadingEdgeTests.run();
         SheetEdgeTests.run();
         LanguageTests.run(args.length > 0 ? args[0] : "src/main/java/UseMuseum.java");
+        ReadmeTests.run("README.md");
         RandomRunTests.run();
         Check.close();
         if (Check.failures() > 0) {
